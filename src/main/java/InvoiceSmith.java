@@ -614,13 +614,13 @@ public final class InvoiceSmith {
                     put((char) first);
                     return at + 1;
                 case Form.FIELD:
-                    putNumber(bill.valueOf((char) first, line), second);
+                    putNumber(bill.numberNamed((char) first, line), second);
                     return at + 1;
                 case Form.PLUS:
-                    sum += first == Page.END ? second : bill.valueOf((char) first, line);
+                    sum += first == Page.END ? second : bill.numberNamed((char) first, line);
                     return at + 1;
                 case Form.MINUS:
-                    sum -= first == Page.END ? second : bill.valueOf((char) first, line);
+                    sum -= first == Page.END ? second : bill.numberNamed((char) first, line);
                     return at + 1;
                 case Form.LEFT:
                     left = sum;
@@ -835,7 +835,7 @@ public final class InvoiceSmith {
         }
 
         /** Returns what a NAME of a template stands for, those within a loop at a line. */
-        private int valueOf(char name, int index) {
+        private int numberNamed(char name, int index) {
             switch (name) {
                 case 'n': return number;
                 case 'c': return client;
