@@ -6,25 +6,55 @@ final class Checks {
     static final Class<?> ARGUMENT = IllegalArgumentException.class;
     static final Class<?> STATE = IllegalStateException.class;
 
+    /** What one test tells of at most: the first wrong answers are those to look at. */
+    private static final int MOST_TOLD = 20;
+
     private static int done;
     private static int wrong;
+    private static String test = "";
+    private static int toldOfTest;
 
     private Checks() {
+    }
+
+    /** What is found wrong from now on is told with the name of this test. */
+    static void begin(String name) {
+        test = name.isEmpty() ? "" : name + ": ";
+        toldOfTest = 0;
+    }
+
+    private static void tell(String found) {
+        wrong++;
+        toldOfTest++;
+        if (toldOfTest <= MOST_TOLD) {
+            System.out.println(test + found);
+        }
     }
 
     static void is(String what, long got, long due) {
         done++;
         if (got != due) {
-            wrong++;
-            System.out.println(what + ": answered " + got + ", due is " + due);
+            tell(what + ": answered " + got + ", due is " + due);
         }
     }
 
     static void is(String what, String got, String due) {
         done++;
         if (!got.equals(due)) {
-            wrong++;
-            System.out.println(what + ": answered [" + got + "], due is [" + due + "]");
+            tell(what + ": answered [" + got + "], due is [" + due + "]");
+        }
+    }
+
+    /** A test must check something; an exception that it lets out is told, and the other tests go on. */
+    static void isTested(Runnable body) {
+        int before = done;
+        try {
+            body.run();
+        } catch (RuntimeException e) {
+            tell("threw " + e);
+        }
+        if (done == before) {
+            tell("checked nothing");
         }
     }
 
@@ -33,14 +63,12 @@ final class Checks {
         done++;
         try {
             Object got = call.call();
-            wrong++;
-            System.out.println(what + ": answered " + got + ", due is " + due.getSimpleName());
+            tell(what + ": answered " + got + ", due is " + due.getSimpleName());
         } catch (Exception e) {
             boolean own = e.getStackTrace().length > 0
                     && e.getStackTrace()[0].getClassName().startsWith("InvoiceSmith");
             if (e.getClass() != due || !own) {
-                wrong++;
-                System.out.println(what + ": threw " + e + ", due is " + due.getSimpleName());
+                tell(what + ": threw " + e + ", due is " + due.getSimpleName());
             }
         }
     }
@@ -78,6 +106,14 @@ final class Checks {
     /** Returns what a new object answers to a text read as its template 0. */
     static int readAlone(String text) {
         return read(new InvoiceSmith(), 0, text);
+    }
+
+    static void faults(String text, int place) {
+        is("FAULT of " + text, readAlone(text), -1 - place);
+    }
+
+    static void parts(String text, int parts) {
+        is("PARTs of " + text, readAlone(text), parts);
     }
 
     /** Returns all that is written, and checks that it is blank behind its end. */

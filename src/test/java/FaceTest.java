@@ -7,14 +7,23 @@ import java.util.ArrayList;
 import java.util.Arrays;
 import java.util.Collections;
 import java.util.List;
+import java.util.stream.Collectors;
 
 /** The face is the document's, with nothing more (LANGUAGE.md, rules 1 and 5), and the constants. */
 public final class FaceTest {
+    private static final String INDEX = " throws IndexOutOfBoundsException";
+    private static final String INDEX_ARGUMENT = INDEX + ", IllegalArgumentException";
+    private static final String INDEX_ARGUMENT_STATE = INDEX_ARGUMENT + ", IllegalStateException";
+    private static final String INDEX_STATE = INDEX + ", IllegalStateException";
+
     private static final String[] FACE = {
-        "char written(int, int, int)", "int client(int, int)", "int invoice(int, int)", "int length(int, int)",
-        "int line(int, int, int)", "int make(int)", "int note(int, int)", "int notes()", "int owed(int)",
-        "int pass(int)", "int rate(int, int, int, int)", "int round(int, int)", "int settle(int)", "int strike(int)",
-        "int taxAnew(int)", "int telling(int, int, int)", "int template(int)", "int type(long)", "int used(int, int)",
+        "char written(int, int, int)" + INDEX, "int client(int, int)" + INDEX, "int invoice(int, int)" + INDEX_ARGUMENT,
+        "int length(int, int)" + INDEX, "int line(int, int, int)" + INDEX_ARGUMENT_STATE, "int make(int)" + INDEX_STATE,
+        "int note(int, int)" + INDEX_ARGUMENT, "int notes()", "int owed(int)" + INDEX,
+        "int pass(int) throws IllegalArgumentException", "int rate(int, int, int, int)" + INDEX_ARGUMENT_STATE,
+        "int round(int, int)" + INDEX_ARGUMENT, "int settle(int)" + INDEX, "int strike(int)" + INDEX,
+        "int taxAnew(int)" + INDEX, "int telling(int, int, int)" + INDEX_ARGUMENT, "int template(int)" + INDEX_STATE,
+        "int type(long) throws IllegalArgumentException, IllegalStateException", "int used(int, int)" + INDEX,
     };
 
     public static void main(String[] args) {
@@ -28,6 +37,7 @@ public final class FaceTest {
         }
         Collections.sort(methods);
         Checks.is("public methods", methods.toString(), Arrays.toString(FACE));
+        Checks.is("constructors", Arrays.toString(InvoiceSmith.class.getConstructors()), "[public InvoiceSmith()]");
         Checks.is("class", Modifier.toString(InvoiceSmith.class.getModifiers()), "public final");
 
         List<String> fields = new ArrayList<>();
@@ -52,7 +62,10 @@ public final class FaceTest {
 
     private static String words(Method method) {
         String types = Arrays.toString(method.getParameterTypes());
-        return method.getReturnType() + " " + method.getName() + "(" + types.substring(1, types.length() - 1) + ")";
+        String thrown = Arrays.stream(method.getExceptionTypes()).map(Class::getSimpleName)
+                .collect(Collectors.joining(", "));
+        return method.getReturnType() + " " + method.getName() + "(" + types.substring(1, types.length() - 1) + ")"
+                + (thrown.isEmpty() ? "" : " throws " + thrown);
     }
 
     private static void checkHidden(Class<?> owner, List<String> publicNames) {

@@ -99,144 +99,136 @@ public final class PageTest {
         Checks.is("53 fields", Checks.read(fields, 0, text + "."), 53);
     }
 
-    private static void faults(String text, int place) {
-        Checks.is("FAULT of " + text, Checks.readAlone(text), -1 - place);
-    }
-
-    private static void parts(String text, int parts) {
-        Checks.is("PARTs of " + text, Checks.readAlone(text), parts);
-    }
-
     private static void plainTemplates() {
-        parts("", 0);
-        parts("a", 0);
-        parts(" ~!\"*?:<=>+-09", 0);
-        faults("}", 0);
-        faults("|", 0);
-        faults("ab}", 2);
-        faults("a|b", 1);
-        faults("*}", 1);
-        faults("a{", 2);
-        faults("{}", 1);
-        faults("{{", 1);
-        faults("{|", 1);
-        faults("{:", 1);
-        faults("{ n}", 1);
+        Checks.parts("", 0);
+        Checks.parts("a", 0);
+        Checks.parts(" ~!\"*?:<=>+-09", 0);
+        Checks.faults("}", 0);
+        Checks.faults("|", 0);
+        Checks.faults("ab}", 2);
+        Checks.faults("a|b", 1);
+        Checks.faults("*}", 1);
+        Checks.faults("a{", 2);
+        Checks.faults("{}", 1);
+        Checks.faults("{{", 1);
+        Checks.faults("{|", 1);
+        Checks.faults("{:", 1);
+        Checks.faults("{ n}", 1);
     }
 
     private static void fields() {
         for (char name : "ncdlstg".toCharArray()) {
-            parts("{" + name + "}", 1);
-            parts("{*{" + name + "}*}", 2);
-            parts("{?" + name + "=" + name + ":}", 1);
+            Checks.parts("{" + name + "}", 1);
+            Checks.parts("{*{" + name + "}*}", 2);
+            Checks.parts("{?" + name + "=" + name + ":}", 1);
         }
         for (char name : "ikqpax".toCharArray()) {
-            faults("{" + name + "}", 1);
-            parts("{*{" + name + "}*}", 2);
-            faults("{?" + name + "=0:}", 2);
-            faults("{?0=" + name + ":}", 4);
-            faults("{?0=0-" + name + ":}", 6);
-            parts("{*{?" + name + "=" + name + ":}*}", 2);
-            faults("{*a*}{" + name + "}", 6);
-            faults("{?0=0:{*a*}{" + name + "}}", 12);
-            faults("{?0=0:{*a*}|{" + name + "}}", 13);
-            parts("{*{?0=0:{" + name + "}|{" + name + "}}*}", 4);
+            Checks.faults("{" + name + "}", 1);
+            Checks.parts("{*{" + name + "}*}", 2);
+            Checks.faults("{?" + name + "=0:}", 2);
+            Checks.faults("{?0=" + name + ":}", 4);
+            Checks.faults("{?0=0-" + name + ":}", 6);
+            Checks.parts("{*{?" + name + "=" + name + ":}*}", 2);
+            Checks.faults("{*a*}{" + name + "}", 6);
+            Checks.faults("{?0=0:{*a*}{" + name + "}}", 12);
+            Checks.faults("{?0=0:{*a*}|{" + name + "}}", 13);
+            Checks.parts("{*{?0=0:{" + name + "}|{" + name + "}}*}", 4);
         }
         for (char name : "befhjmoruvwyzNA0 !".toCharArray()) {
-            faults("{" + name + "}", 1);
-            faults("{*{" + name + "}*}", 3);
+            Checks.faults("{" + name + "}", 1);
+            Checks.faults("{*{" + name + "}*}", 3);
         }
         for (char width : "123456789".toCharArray()) {
-            parts("{n" + width + "}", 1);
+            Checks.parts("{n" + width + "}", 1);
         }
-        faults("{n0}", 2);
-        faults("{n:}", 2);
-        faults("{n/}", 2);
-        faults("{n10}", 3);
-        faults("{n", 2);
-        faults("{n9", 3);
-        faults("{n 9}", 2);
-        faults("{nn}", 2);
-        faults("{1}", 1);
-        parts("{n}{c}{d}", 3);
+        Checks.faults("{n0}", 2);
+        Checks.faults("{n:}", 2);
+        Checks.faults("{n/}", 2);
+        Checks.faults("{n10}", 3);
+        Checks.faults("{n", 2);
+        Checks.faults("{n9", 3);
+        Checks.faults("{n 9}", 2);
+        Checks.faults("{nn}", 2);
+        Checks.faults("{1}", 1);
+        Checks.parts("{n}{c}{d}", 3);
     }
 
     private static void loops() {
-        parts("{**}", 1);
-        parts("{*a*}", 1);
-        parts("{***}", 1);
-        parts("{****}", 1);
-        parts("{*a*}*", 1);
-        parts("{*a*}{*b*}", 2);
-        parts("{*a*b*c*}", 1);
-        parts("{*a*{i}*}", 2);
-        faults("{*", 2);
-        faults("{*}", 2);
-        faults("{*a", 3);
-        faults("{*a*", 4);
-        faults("{*a}", 3);
-        faults("{*a|b*}", 3);
-        faults("{*a* }", 5);
-        faults("{*a*}}", 5);
-        faults("{*a*}*}", 6);
-        faults("{*{*a*}*}", 3);
-        faults("{*{?0=0:{*a*}}*}", 9);
-        parts("{?0=0:{*a*}|{*b*}}", 3);
+        Checks.parts("{**}", 1);
+        Checks.parts("{*a*}", 1);
+        Checks.parts("{***}", 1);
+        Checks.parts("{****}", 1);
+        Checks.parts("{*a*}*", 1);
+        Checks.parts("{*a*}{*b*}", 2);
+        Checks.parts("{*a*b*c*}", 1);
+        Checks.parts("{*a*{i}*}", 2);
+        Checks.faults("{*", 2);
+        Checks.faults("{*}", 2);
+        Checks.faults("{*a", 3);
+        Checks.faults("{*a*", 4);
+        Checks.faults("{*a}", 3);
+        Checks.faults("{*a|b*}", 3);
+        Checks.faults("{*a* }", 5);
+        Checks.faults("{*a*}}", 5);
+        Checks.faults("{*a*}*}", 6);
+        Checks.faults("{*{*a*}*}", 3);
+        Checks.faults("{*{?0=0:{*a*}}*}", 9);
+        Checks.parts("{?0=0:{*a*}|{*b*}}", 3);
     }
 
     private static void choices() {
-        parts("{?n<c:}", 1);
-        parts("{?n>c:a}", 1);
-        parts("{?n=c:a|b}", 1);
-        parts("{?n=c:|b}", 1);
-        parts("{?n=c:a|}", 1);
-        parts("{?n=c:|}", 1);
-        parts("{?n=0:*}", 1);
-        parts("{?n=0:a*|b*}", 1);
-        parts("{?n+1-2+c=d-3+4:{n}|{c}{d}}", 4);
-        parts("{*{?i=1:**}*}", 2);
-        parts("{*{?i=1:*|*}*}", 2);
-        parts("{*{?i=1:{?i=2:*}*}**}", 3);
-        faults("{?", 2);
-        faults("{?}", 2);
-        faults("{?-1=0:a}", 2);
-        faults("{?+1=0:a}", 2);
-        faults("{?<1:a}", 2);
-        faults("{?n", 3);
-        faults("{?n:a}", 3);
-        faults("{?nn<1:a}", 3);
-        faults("{?1n<1:a}", 3);
-        faults("{?n1<1:a}", 3);
-        faults("{?n+<1:a}", 4);
-        faults("{?n+-1<1:a}", 4);
-        faults("{?n*1<1:a}", 3);
-        faults("{?n<", 4);
-        faults("{?n<:a}", 4);
-        faults("{?n<=1:a}", 4);
-        faults("{?n<1", 5);
-        faults("{?n<1<2:a}", 5);
-        faults("{?n<1}", 5);
-        faults("{?n<1|a}", 5);
-        faults("{?n<1-", 6);
-        faults("{?n<1:", 6);
-        faults("{?n<1:a", 7);
-        faults("{?n<1:a|", 8);
-        faults("{?n<1:a|b", 9);
-        faults("{?n<1:a|b|c}", 9);
-        faults("{?n<1:a|{}", 9);
-        faults("{?n=0:x*}}", 9);
-        faults("{?n=0: {*a}}", 10);
-        faults("{*{?i=1:a*}", 11);
+        Checks.parts("{?n<c:}", 1);
+        Checks.parts("{?n>c:a}", 1);
+        Checks.parts("{?n=c:a|b}", 1);
+        Checks.parts("{?n=c:|b}", 1);
+        Checks.parts("{?n=c:a|}", 1);
+        Checks.parts("{?n=c:|}", 1);
+        Checks.parts("{?n=0:*}", 1);
+        Checks.parts("{?n=0:a*|b*}", 1);
+        Checks.parts("{?n+1-2+c=d-3+4:{n}|{c}{d}}", 4);
+        Checks.parts("{*{?i=1:**}*}", 2);
+        Checks.parts("{*{?i=1:*|*}*}", 2);
+        Checks.parts("{*{?i=1:{?i=2:*}*}**}", 3);
+        Checks.faults("{?", 2);
+        Checks.faults("{?}", 2);
+        Checks.faults("{?-1=0:a}", 2);
+        Checks.faults("{?+1=0:a}", 2);
+        Checks.faults("{?<1:a}", 2);
+        Checks.faults("{?n", 3);
+        Checks.faults("{?n:a}", 3);
+        Checks.faults("{?nn<1:a}", 3);
+        Checks.faults("{?1n<1:a}", 3);
+        Checks.faults("{?n1<1:a}", 3);
+        Checks.faults("{?n+<1:a}", 4);
+        Checks.faults("{?n+-1<1:a}", 4);
+        Checks.faults("{?n*1<1:a}", 3);
+        Checks.faults("{?n<", 4);
+        Checks.faults("{?n<:a}", 4);
+        Checks.faults("{?n<=1:a}", 4);
+        Checks.faults("{?n<1", 5);
+        Checks.faults("{?n<1<2:a}", 5);
+        Checks.faults("{?n<1}", 5);
+        Checks.faults("{?n<1|a}", 5);
+        Checks.faults("{?n<1-", 6);
+        Checks.faults("{?n<1:", 6);
+        Checks.faults("{?n<1:a", 7);
+        Checks.faults("{?n<1:a|", 8);
+        Checks.faults("{?n<1:a|b", 9);
+        Checks.faults("{?n<1:a|b|c}", 9);
+        Checks.faults("{?n<1:a|{}", 9);
+        Checks.faults("{?n=0:x*}}", 9);
+        Checks.faults("{?n=0: {*a}}", 10);
+        Checks.faults("{*{?i=1:a*}", 11);
     }
 
     private static void numbers() {
-        parts("{?0=0:}", 1);
-        parts("{?000000=999999:}", 1);
-        parts("{?1+999999<n-123456:}", 1);
-        faults("{?1234567=0:}", 8);
-        faults("{?0=0000000:}", 10);
-        faults("{?n+1234567=0:}", 10);
-        faults("{?12345", 7);
+        Checks.parts("{?0=0:}", 1);
+        Checks.parts("{?000000=999999:}", 1);
+        Checks.parts("{?1+999999<n-123456:}", 1);
+        Checks.faults("{?1234567=0:}", 8);
+        Checks.faults("{?0=0000000:}", 10);
+        Checks.faults("{?n+1234567=0:}", 10);
+        Checks.faults("{?12345", 7);
     }
 
     private static String nested(int deep, String core) {
@@ -252,16 +244,16 @@ public final class PageTest {
     }
 
     private static void depth() {
-        parts(nested(5, "{n}"), 6);
-        faults(nested(6, "{n}"), 31);
-        parts(nested(4, "{*{i}*}"), 6);
-        faults(nested(5, "{*{i}*}"), 31);
-        parts(nested(5, "a") + nested(5, "b"), 10);
-        parts("{*" + nested(4, "{i}") + "*}", 6);
-        faults("{*" + nested(5, "{i}") + "*}", 27);
-        faults("{*" + nested(4, "{*{i}*}") + "*}", 27);
-        parts("{?0=0:|" + nested(4, "a") + "}", 5);
-        faults("{?0=0:|" + nested(5, "a") + "}", 32);
+        Checks.parts(nested(5, "{n}"), 6);
+        Checks.faults(nested(6, "{n}"), 31);
+        Checks.parts(nested(4, "{*{i}*}"), 6);
+        Checks.faults(nested(5, "{*{i}*}"), 31);
+        Checks.parts(nested(5, "a") + nested(5, "b"), 10);
+        Checks.parts("{*" + nested(4, "{i}") + "*}", 6);
+        Checks.faults("{*" + nested(5, "{i}") + "*}", 27);
+        Checks.faults("{*" + nested(4, "{*{i}*}") + "*}", 27);
+        Checks.parts("{?0=0:|" + nested(4, "a") + "}", 5);
+        Checks.faults("{?0=0:|" + nested(5, "a") + "}", 32);
     }
 
     private static void templatesAnew() {
